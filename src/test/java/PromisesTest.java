@@ -417,6 +417,21 @@ public final class PromisesTest {
         due(STATE, () -> x.amend(0, 0));
         due(INDEX, () -> x.amend(0, 20));
         due(1, () -> x.clear());
+        x.account(3);
+        due(5, () -> x.amend(0, 6));
+        dueText(x, 0, 6, "A3");
+        Covenanter y = new Covenanter();
+        pushLevel(y, 3);
+        y.define();
+        y.account(1);
+        y.share(9);
+        due(2, () -> y.amend(0, 1));
+        y.account(1);
+        y.number(4);
+        y.join(2);
+        due(3, () -> y.amend(0, 2));
+        dueText(y, 0, 1, "9% of A1");
+        dueText(y, 0, 2, "min(A1, 4)");
     }
 
     private static void promise11Names() {
@@ -900,6 +915,11 @@ public final class PromisesTest {
         due(14, () -> x.broken());
         x.amount(2, 19, 1);
         due(15, () -> x.broken());
+        x.limit(0, 0, 0);
+        due(18, () -> x.broken());
+        x.waive(0, 0);
+        x.waive(0, 19);
+        due(16, () -> x.broken());
     }
 
     // ---- baskets
@@ -942,9 +962,15 @@ public final class PromisesTest {
         x.amend(1, 19);
         due(166, () -> x.size(0, 19));
         due(100, () -> x.size(0, 18));
+        x.basket(7, 1, 100);
+        x.amount(1, 5, 1);
+        x.amount(1, 6, -1);
+        due(8, () -> x.size(1, 5));
+        due(7, () -> x.size(1, 6));
+        due(7, () -> x.size(1, 7));
         due(INDEX, () -> x.size(0, 20));
         due(INDEX, () -> x.size(0, -1));
-        due(INDEX, () -> x.size(1, 0));
+        due(INDEX, () -> x.size(2, 0));
         due(INDEX, () -> x.size(-1, 0));
     }
 
