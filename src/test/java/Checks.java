@@ -30,19 +30,34 @@ final class Checks {
         if (!want.equals(got)) {
             wrong++;
             String from = StackWalker.getInstance().walk(frames -> frames
-                .filter(frame -> !frame.getClassName().startsWith("Checks"))
+                .filter(frame -> !frame.getClassName().equals("Checks") && !frame.getClassName().equals("Edges"))
                 .findFirst().map(frame -> frame.getMethodName() + ":" + frame.getLineNumber()).orElse(""));
             System.out.println(name + " " + from + " " + about + ": " + got + ", due is " + want);
         }
     }
 
-    // The name of the exception's own class, so that what the machine throws never passes for ours.
+    void dueText(Covenanter x, int term, int quarter, String want) {
+        StringBuilder got = new StringBuilder();
+        for (int place = 0; place < x.textLength(term, quarter); place++) {
+            got.append(x.textChar(term, quarter, place));
+        }
+        due(want, got.toString());
+    }
+
+    // The name of the exception's own class, so that what the machine throws never passes for ours;
+    // and what a list throws bears a name that ours bears, too, but comes from within the library.
     static String told(Call call) {
         try {
             return String.valueOf(call.answer());
         } catch (Throwable thrown) {
-            return thrown.getClass().getSimpleName();
+            StackTraceElement[] frames = thrown.getStackTrace();
+            boolean isOfLibrary = frames.length > 0 && frames[0].getClassName().matches("(java|jdk)\\..*");
+            return (isOfLibrary ? "the library's " : "") + thrown.getClass().getSimpleName();
         }
+    }
+
+    static boolean isAnswer(String told) {
+        return told.matches("-?[0-9]+");
     }
 
     int wrong() {

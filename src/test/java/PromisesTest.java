@@ -54,43 +54,8 @@ public final class PromisesTest {
 
     // ---- helpers
 
-    /** A checker whose terms T0 to T(count - 1) are the accounts A0 to A(count - 1). */
-    private static Covenanter withAccountTerms(int count) {
-        Covenanter x = new Covenanter();
-        for (int account = 0; account < count; account++) {
-            x.account(account);
-            x.define();
-        }
-        return x;
-    }
-
-    private static void fillStack(Covenanter x) {
-        x.clear();
-        for (int height = 1; height <= 8; height++) {
-            x.number(height);
-        }
-    }
-
-    /** Puts a formula of a level from 1 to 6 on the stack. */
-    private static void pushLevel(Covenanter x, int level) {
-        x.account(0);
-        for (int made = 1; made < level; made++) {
-            x.year();
-        }
-    }
-
-    private static void setAmounts(Covenanter x, int account, int... amounts) {
-        for (int quarter = 0; quarter < amounts.length; quarter++) {
-            x.amount(account, quarter, amounts[quarter]);
-        }
-    }
-
     private static void dueText(Covenanter x, int term, int quarter, String want) {
-        StringBuilder got = new StringBuilder();
-        for (int place = 0; place < x.textLength(term, quarter); place++) {
-            got.append(x.textChar(term, quarter, place));
-        }
-        CHECKS.due(want, got.toString());
+        CHECKS.dueText(x, term, quarter, want);
     }
 
     // ---- accounts and formulas
@@ -152,7 +117,7 @@ public final class PromisesTest {
         x.amount(5, 3, -44);
         due(-44, () -> x.value(0, 3));
         due(1, () -> x.level(0));
-        fillStack(x);
+        Scenes.fillStack(x);
         due(STATE, () -> x.account(0));
         due(INDEX, () -> x.account(6));
         due(INDEX, () -> x.account(-1));
@@ -180,7 +145,7 @@ public final class PromisesTest {
         due(1000000, () -> x.value(1, 19));
         due(0, () -> x.value(2, 0));
         due(1, () -> x.level(1));
-        fillStack(x);
+        Scenes.fillStack(x);
         due(STATE, () -> x.number(5));
         due(ARGUMENT, () -> x.number(-1));
         due(ARGUMENT, () -> x.number(1000001));
@@ -191,9 +156,9 @@ public final class PromisesTest {
         CHECKS.about("term");
         Covenanter x = new Covenanter();
         due(INDEX, () -> x.term(0));
-        pushLevel(x, 5);
+        Scenes.pushLevel(x, 5);
         x.define();
-        pushLevel(x, 6);
+        Scenes.pushLevel(x, 6);
         x.define();
         due(INDEX, () -> x.term(-1));
         due(INDEX, () -> x.term(2));
@@ -206,7 +171,7 @@ public final class PromisesTest {
         due(STATE, () -> x.term(2));
         x.amount(0, 0, 6);
         due(6, () -> x.value(2, 0));
-        fillStack(x);
+        Scenes.fillStack(x);
         due(STATE, () -> x.term(0));
         due(INDEX, () -> x.term(3));
         due(8, () -> x.clear());
@@ -217,8 +182,8 @@ public final class PromisesTest {
         Covenanter x = new Covenanter();
         String[] texts = {"(A0 + A1)", "(A0 - A1)", "min(A0, A1)", "max(A0, A1)"};
         long[] values = {-4, -10, -7, 3};
-        setAmounts(x, 0, -7, 3);
-        setAmounts(x, 1, 3, -7);
+        Scenes.setAmounts(x, 0, -7, 3);
+        Scenes.setAmounts(x, 1, 3, -7);
         long[] turned = {-4, 10, -7, 3};
         for (int kind = 0; kind < 4; kind++) {
             int k = kind;
@@ -245,28 +210,28 @@ public final class PromisesTest {
     private static void promise06Levels() {
         CHECKS.about("join: levels");
         Covenanter x = new Covenanter();
-        pushLevel(x, 2);
-        pushLevel(x, 5);
+        Scenes.pushLevel(x, 2);
+        Scenes.pushLevel(x, 5);
         due(1, () -> x.join(0));
         due(0, () -> x.define());
         due(6, () -> x.level(0));
-        pushLevel(x, 4);
-        pushLevel(x, 1);
+        Scenes.pushLevel(x, 4);
+        Scenes.pushLevel(x, 1);
         x.join(3);
         due(1, () -> x.define());
         due(5, () -> x.level(1));
-        pushLevel(x, 6);
+        Scenes.pushLevel(x, 6);
         x.number(1);
         due(STATE, () -> x.join(0));
         due(ARGUMENT, () -> x.join(4));
         due(2, () -> x.clear());
         x.number(1);
-        pushLevel(x, 6);
+        Scenes.pushLevel(x, 6);
         due(STATE, () -> x.join(0));
         due(2, () -> x.define());
         due(6, () -> x.level(2));
         due(1, () -> x.clear());
-        pushLevel(x, 6);
+        Scenes.pushLevel(x, 6);
         x.number(1);
         x.number(2);
         due(2, () -> x.join(0));
@@ -279,7 +244,7 @@ public final class PromisesTest {
         due(STATE, () -> x.share(0));
         due(ARGUMENT, () -> x.share(-1));
         due(ARGUMENT, () -> x.share(101));
-        setAmounts(x, 0, 10, -10, 3, -3, 1, -1);
+        Scenes.setAmounts(x, 0, 10, -10, 3, -3, 1, -1);
         x.account(0);
         due(2, () -> x.share(33));
         due(0, () -> x.define());
@@ -317,7 +282,7 @@ public final class PromisesTest {
         CHECKS.about("year");
         Covenanter x = new Covenanter();
         due(STATE, () -> x.year());
-        setAmounts(x, 0, 1, 20, 300, 4000, 50000, 600000);
+        Scenes.setAmounts(x, 0, 1, 20, 300, 4000, 50000, 600000);
         x.account(0);
         due(2, () -> x.year());
         due(0, () -> x.define());
@@ -350,7 +315,7 @@ public final class PromisesTest {
         due(2, () -> x.clear());
         due(0, () -> x.clear());
         due(STATE, () -> x.year());
-        fillStack(x);
+        Scenes.fillStack(x);
         due(8, () -> x.clear());
         due(1, () -> x.number(1));
     }
@@ -378,7 +343,7 @@ public final class PromisesTest {
 
     private static void promise11() {
         CHECKS.about("amend");
-        Covenanter x = withAccountTerms(2);
+        Covenanter x = Scenes.withAccountTerms(2);
         due(STATE, () -> x.amend(0, 0));
         due(INDEX, () -> x.amend(2, 0));
         due(INDEX, () -> x.amend(-1, 0));
@@ -421,7 +386,7 @@ public final class PromisesTest {
         due(5, () -> x.amend(0, 6));
         dueText(x, 0, 6, "A3");
         Covenanter y = new Covenanter();
-        pushLevel(y, 3);
+        Scenes.pushLevel(y, 3);
         y.define();
         y.account(1);
         y.share(9);
@@ -436,10 +401,10 @@ public final class PromisesTest {
 
     private static void promise11Names() {
         CHECKS.about("amend: names and levels");
-        Covenanter x = withAccountTerms(1);
-        pushLevel(x, 3);
+        Covenanter x = Scenes.withAccountTerms(1);
+        Scenes.pushLevel(x, 3);
         x.define();
-        pushLevel(x, 3);
+        Scenes.pushLevel(x, 3);
         x.define();
         x.account(0);
         x.define();
@@ -460,12 +425,12 @@ public final class PromisesTest {
         x.number(3);
         due(1, () -> x.amend(1, 0));
         due(3, () -> x.level(1));
-        pushLevel(x, 4);
+        Scenes.pushLevel(x, 4);
         due(STATE, () -> x.amend(1, 2));
         due(1, () -> x.clear());
-        pushLevel(x, 3);
+        Scenes.pushLevel(x, 3);
         due(2, () -> x.amend(1, 2));
-        pushLevel(x, 4);
+        Scenes.pushLevel(x, 4);
         x.define();
         x.term(1);
         due(4, () -> x.level(4));
@@ -499,7 +464,7 @@ public final class PromisesTest {
         due(INDEX, () -> x.level(0));
         for (int level = 1; level <= 6; level++) {
             int l = level;
-            pushLevel(x, level);
+            Scenes.pushLevel(x, level);
             x.define();
             due(l, () -> x.level(l - 1));
         }
@@ -512,7 +477,7 @@ public final class PromisesTest {
 
     private static void promise14() {
         CHECKS.about("value");
-        Covenanter x = withAccountTerms(1);
+        Covenanter x = Scenes.withAccountTerms(1);
         due(INDEX, () -> x.value(1, 0));
         due(INDEX, () -> x.value(-1, 0));
         due(INDEX, () -> x.value(0, 20));
@@ -535,7 +500,7 @@ public final class PromisesTest {
 
     private static void promise14YearsOfAmendedTerms() {
         CHECKS.about("value: years over amended terms");
-        Covenanter x = withAccountTerms(1);
+        Covenanter x = Scenes.withAccountTerms(1);
         for (int quarter = 0; quarter < 20; quarter++) {
             x.amount(0, quarter, 1);
         }
@@ -602,7 +567,7 @@ public final class PromisesTest {
 
     private static void promise16() {
         CHECKS.about("textChar");
-        Covenanter x = withAccountTerms(3);
+        Covenanter x = Scenes.withAccountTerms(3);
         x.term(2);
         x.number(40);
         x.join(1);
@@ -641,7 +606,7 @@ public final class PromisesTest {
 
     private static void promise17() {
         CHECKS.about("test");
-        Covenanter x = withAccountTerms(2);
+        Covenanter x = Scenes.withAccountTerms(2);
         due(INDEX, () -> x.test(2, 0));
         due(INDEX, () -> x.test(0, 2));
         due(INDEX, () -> x.test(-1, 0));
@@ -663,7 +628,7 @@ public final class PromisesTest {
 
     private static void promise18() {
         CHECKS.about("limit");
-        Covenanter x = withAccountTerms(2);
+        Covenanter x = Scenes.withAccountTerms(2);
         due(INDEX, () -> x.limit(0, 0, 100));
         x.test(0, 1);
         x.test(1, 0);
@@ -698,11 +663,11 @@ public final class PromisesTest {
 
     private static void promise19() {
         CHECKS.about("wake");
-        Covenanter x = withAccountTerms(2);
+        Covenanter x = Scenes.withAccountTerms(2);
         due(INDEX, () -> x.wake(0, 0, 0));
         x.test(0, 1);
         x.limit(0, 0, 100);
-        setAmounts(x, 3, 5, 6, 7);
+        Scenes.setAmounts(x, 3, 5, 6, 7);
         due(Covenanter.NONE, () -> x.wake(0, 3, 6));
         due(Covenanter.ASLEEP, () -> x.state(0, 0));
         due(Covenanter.BROKEN, () -> x.state(0, 1));
@@ -731,7 +696,7 @@ public final class PromisesTest {
 
     private static void promise20() {
         CHECKS.about("cure");
-        Covenanter x = withAccountTerms(2);
+        Covenanter x = Scenes.withAccountTerms(2);
         due(INDEX, () -> x.cure(0, 0, 1));
         x.test(0, 1);
         x.test(0, 1);
@@ -758,7 +723,7 @@ public final class PromisesTest {
 
     private static void promise20Windows() {
         CHECKS.about("cure: four quarters");
-        Covenanter x = withAccountTerms(2);
+        Covenanter x = Scenes.withAccountTerms(2);
         x.test(0, 1);
         due(1, () -> x.cure(0, 0, 1));
         due(2, () -> x.cure(0, 3, 1));
@@ -785,7 +750,7 @@ public final class PromisesTest {
 
     private static void promise21() {
         CHECKS.about("waive");
-        Covenanter x = withAccountTerms(2);
+        Covenanter x = Scenes.withAccountTerms(2);
         due(INDEX, () -> x.waive(0, 0) ? 1 : 0);
         x.test(0, 1);
         x.limit(0, 0, 100);
@@ -806,7 +771,7 @@ public final class PromisesTest {
 
     private static void promise22() {
         CHECKS.about("state");
-        Covenanter x = withAccountTerms(3);
+        Covenanter x = Scenes.withAccountTerms(3);
         due(INDEX, () -> x.state(0, 0));
         x.test(0, 1);
         x.limit(0, 0, 250);
@@ -836,7 +801,7 @@ public final class PromisesTest {
 
     private static void promise22Edges() {
         CHECKS.about("state: a bottom that is not above 0, a top below 0");
-        Covenanter x = withAccountTerms(2);
+        Covenanter x = Scenes.withAccountTerms(2);
         x.test(0, 1);
         x.limit(0, 0, 100);
         x.amount(0, 0, -500);
@@ -860,7 +825,7 @@ public final class PromisesTest {
 
     private static void promise23() {
         CHECKS.about("room");
-        Covenanter x = withAccountTerms(2);
+        Covenanter x = Scenes.withAccountTerms(2);
         due(INDEX, () -> x.room(0, 0));
         x.test(0, 1);
         due(STATE, () -> x.room(0, 0));
@@ -897,7 +862,7 @@ public final class PromisesTest {
 
     private static void promise24() {
         CHECKS.about("broken");
-        Covenanter x = withAccountTerms(2);
+        Covenanter x = Scenes.withAccountTerms(2);
         x.test(0, 1);
         due(0, () -> x.broken());
         x.limit(0, 3, 100);
@@ -926,7 +891,7 @@ public final class PromisesTest {
 
     private static void promise25() {
         CHECKS.about("basket");
-        Covenanter x = withAccountTerms(1);
+        Covenanter x = Scenes.withAccountTerms(1);
         due(ARGUMENT, () -> x.basket(-1, 0, 0));
         due(ARGUMENT, () -> x.basket(1000001, 0, 0));
         due(ARGUMENT, () -> x.basket(0, 0, -1));
@@ -949,10 +914,10 @@ public final class PromisesTest {
 
     private static void promise26() {
         CHECKS.about("size");
-        Covenanter x = withAccountTerms(2);
+        Covenanter x = Scenes.withAccountTerms(2);
         due(INDEX, () -> x.size(0, 0));
         x.basket(100, 1, 33);
-        setAmounts(x, 1, 10, -10, 0, 3, 1000000);
+        Scenes.setAmounts(x, 1, 10, -10, 0, 3, 1000000);
         long[] sizes = {103, 100, 100, 100, 330100};
         for (int quarter = 0; quarter < sizes.length; quarter++) {
             int q = quarter;
@@ -976,7 +941,7 @@ public final class PromisesTest {
 
     private static void promise27() {
         CHECKS.about("use");
-        Covenanter x = withAccountTerms(1);
+        Covenanter x = Scenes.withAccountTerms(1);
         due(INDEX, () -> x.use(0, 0, 1));
         x.basket(50, 0, 50);
         x.amount(0, 7, 100);
@@ -1004,7 +969,7 @@ public final class PromisesTest {
 
     private static void promise28() {
         CHECKS.about("refill");
-        Covenanter x = withAccountTerms(1);
+        Covenanter x = Scenes.withAccountTerms(1);
         due(INDEX, () -> x.refill(0, 1));
         x.basket(1000000, 0, 100);
         due(STATE, () -> x.refill(0, 1));
